@@ -125,6 +125,11 @@ public final class TextTest {
         error("Us80", 2);
         error("Us1000", 4);
         error("Us1071", 5);
+        error("Us1010", 6);
+        error("Us10103", 7);
+        error("Us101030", 8);
+        error("Us101036", 8);
+        error("Us10103601", -1);
         error("Us10700", 6);
         error("Us10705", 7);
         error("Us10706", 6);
@@ -143,6 +148,12 @@ public final class TextTest {
         error("Uh90", 2);
         error("Uh0080", 6);
         error("Uh0081", 5);
+        error("Uh0000", 6);
+        error("Uh000000", -1);
+        error("Uh000044", -1);
+        error("Uh0000/0", 6);
+        error("Uh00000/", 7);
+        error("Uh00000:", 7);
         error("Uh008004", -1);
         error("Uh008044", -1);
         error("Uh008005", 7);
@@ -188,6 +199,7 @@ public final class TextTest {
         Check.due("5: two sirens too many", () -> sirens.load(), 2);
         Check.due("5: four sirens", () -> sirens.about(0), 4);
         Check.due("5: the first is off", () -> sirens.sirenOf(0, 5), 0);
+        Check.due("5: the fourth is on again", () -> sirens.sirenOf(3, 5), 1);
         SirenFair hearers = with("Uh404022h404022h404022h404022h404022");
         Check.due("5: a hearer too many", () -> hearers.load(), 1);
         SirenFair walls = with("Uwu40wu40wl40wl40wl41o0+t01");

@@ -41,6 +41,27 @@ public final class TickTest {
             big.ticks(10);
         }
         Check.due("7: twice round", () -> big.sirenOf(0, 6), 0);
+        for (int r = 1; r <= 5; r++) {
+            wholeRing(r);
+        }
+    }
+
+    /** East, south, west and north again, 2 * r steps each. */
+    private static void wholeRing(int r) {
+        SirenFair fair = new SirenFair();
+        fair.siren(7, -9, r, 1, 20);
+        int x = 7 - r;
+        int y = -9 - r;
+        for (int n = 1; n <= 16 * r; n++) {
+            fair.ticks(1);
+            int side = (n - 1) / (2 * r) % 4;
+            x += side == 0 ? 1 : side == 2 ? -1 : 0;
+            y += side == 1 ? 1 : side == 3 ? -1 : 0;
+            int wantX = x;
+            int wantY = y;
+            Check.due("7: x of the ring of " + r, () -> fair.sirenOf(0, 7), wantX);
+            Check.due("7: y of the ring of " + r, () -> fair.sirenOf(0, 8), wantY);
+        }
     }
 
     private static void edges() {

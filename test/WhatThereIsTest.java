@@ -95,6 +95,16 @@ public final class WhatThereIsTest {
         Check.due("8: by its place (0, 7), not its centre", () -> fair.hearerOf(0, 5), 3);
         fair.ticks(20);
         Check.due("8: by where it is then, (10, 17)", () -> fair.hearerOf(0, 5), 0);
+        int[][] corners = {{-20, -20}, {20, -20}, {20, 20}, {-20, 20}};
+        SirenFair four = new SirenFair();
+        for (int[] corner : corners) {
+            four.siren(corner[0], corner[1], 1, 0, 1);
+        }
+        for (int i = 0; i < 4; i++) {
+            int n = i;
+            four.hearer(corners[n][0] * 2, corners[n][1] * 2, 0, 0);
+            Check.due("8: in the corner " + n, () -> four.hearerOf(n, 5), n);
+        }
     }
 
     private static void wallOf() {

@@ -12,6 +12,7 @@ public final class WhatWouldBeTest {
         scriptOtherGroups();
         simulate();
         simulateTurns();
+        simulateCrowded();
         changeNothing();
         Check.end();
     }
@@ -177,6 +178,7 @@ public final class WhatWouldBeTest {
         for (int n : new int[] {Integer.MIN_VALUE, -1, 0, 4, Integer.MAX_VALUE}) {
             Check.thrown("24: n " + n, () -> fair.runScript(n, 10001), Check.ARGUMENT);
         }
+        Check.thrown("24: no commands at all", () -> fair.runScript(0, 0), Check.ARGUMENT);
         for (int i = 1; i <= 3; i++) {
             int n = i;
             long first = Long.parseLong("1" + "00000".repeat(n));
@@ -328,6 +330,36 @@ public final class WhatWouldBeTest {
             default:
                 return fair.ticks(1 + q % 12);
         }
+    }
+
+    /** Two sirens faster than sound, with hearers all round, a wall, and many late pulses already. */
+    private static SirenFair crowded() {
+        SirenFair fair = new SirenFair();
+        fair.set(0, 1);
+        fair.siren(-2, -2, 5, 3, 1);
+        fair.siren(2, -3, 5, -3, 1);
+        fair.hearer(10, 0, 0, 0);
+        fair.hearer(-10, 0, 0, 0);
+        fair.hearer(0, 10, 0, 0);
+        fair.hearer(0, -10, 0, 0);
+        fair.wall(true, 17);
+        fair.ticks(60);
+        return fair;
+    }
+
+    private static void simulateCrowded() {
+        SirenFair fair = crowded();
+        Check.isTrue("25: late ones before", fair.about(8) > 0);
+        boolean sawMany = false;
+        for (long seed = 0; seed < 60; seed++) {
+            long s = seed;
+            SirenFair other = crowded();
+            int before = other.about(8);
+            int want = byCalls(other, s, 60);
+            sawMany = sawMany || other.about(8) - before >= 100;
+            Check.due("25: crowded, seed " + s, () -> fair.simulate(s, 60), want);
+        }
+        Check.isTrue("25: there were 100 late ones or more", sawMany);
     }
 
     /** Seeds enough that each kind of turn, left out or done, makes a difference somewhere. */

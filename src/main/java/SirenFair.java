@@ -81,7 +81,7 @@ public final class SirenFair {
         }
         int leftOut = 0;
         text.toFirstCommand();
-        while (text.at < text.length && text.readCommand()) {
+        for (int i = 0; i < FairText.LIMIT && text.at < text.length && text.readCommand(); i++) {
             if (!obeys(present, text.letter, text.numbers)) {
                 leftOut++;
             }
@@ -1087,7 +1087,7 @@ public final class SirenFair {
             }
             toFirstCommand();
             boolean isAllowed = true;
-            while (isAllowed && at < length) {
+            for (int i = 0; i < LIMIT && isAllowed && at < length; i++) {
                 isAllowed = readCommand();
             }
             return isAllowed ? NONE : at;
@@ -1124,7 +1124,10 @@ public final class SirenFair {
 
         /** The next character, NONE at the end. */
         private int next() {
-            return at >= 0 && at < length && at < LIMIT ? signs[at] : NONE;
+            if (at < 0 || at >= length || at >= LIMIT) {
+                return NONE;
+            }
+            return signs[at];
         }
 
         private boolean isNext(char sign) {
