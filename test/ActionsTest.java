@@ -112,7 +112,7 @@ public final class ActionsTest {
         Check.due("15: on", () -> fair.turn(1, true), 3);
         fair.ticks(3);
         Check.due("15: on, it goes on from there", () -> fair.sirenOf(1, 6), 3);
-        Check.due("15: and gives by the time", () -> fair.about(5), 4 + 1 + 1 + 0);
+        Check.due("15: and gives by the time", () -> fair.about(5), 6);
         Check.thrown("15: siren 3", () -> fair.turn(3, false), Check.BOUNDS);
         Check.thrown("15: siren -1", () -> fair.turn(-1, false), Check.BOUNDS);
         for (int far : FAR) {
