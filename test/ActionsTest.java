@@ -12,8 +12,6 @@ public final class ActionsTest {
         set();
         undo();
         undoRing();
-        undoEveryAction();
-        refusedIsNoAction();
         Check.end();
     }
 
@@ -216,81 +214,5 @@ public final class ActionsTest {
             Check.due("19: two of 14 were taken back", () -> fair.undo(), left);
         }
         Check.thrown("19: no more", () -> fair.undo(), Check.STATE);
-    }
-
-    /** All that can be asked of a fair, as one text. */
-    private static String all(SirenFair fair) {
-        StringBuilder b = new StringBuilder();
-        for (int what = 0; what < 10; what++) {
-            int w = what;
-            b.append(fair.about(w)).append(' ');
-            for (int i = 0; i < 4; i++) {
-                int n = i;
-                b.append(Check.answer(() -> fair.sirenOf(n, w))).append(' ');
-                b.append(Check.answer(() -> fair.hearerOf(n, w))).append(' ');
-                b.append(Check.answer(() -> fair.wallOf(n, w))).append(' ');
-                for (int j = 0; j < 4; j++) {
-                    int m = j;
-                    b.append(Check.answer(() -> fair.heard(n, m, w))).append(' ');
-                }
-            }
-            for (int k = 0; k < 61; k++) {
-                int p = k;
-                b.append(Check.answer(() -> fair.pulse(p, w))).append(' ');
-            }
-        }
-        return b.append(fair.quietIn()).append(' ').append(fair.leastSpeed(30)).toString();
-    }
-
-    private static SirenFair busy() {
-        SirenFair fair = new SirenFair();
-        fair.siren(0, 0, 5, 3, 1);
-        fair.siren(9, 9, 2, -1, 2);
-        fair.hearer(10, -5, 1, 1);
-        fair.hearer(-20, 3, -1, 2);
-        fair.wall(true, 12);
-        fair.set(0, 2);
-        fair.ticks(30);
-        return fair;
-    }
-
-    private static void undoEveryAction() {
-        SirenFair fair = busy();
-        String before = all(fair);
-        fair.siren(1, 1, 1, 1, 1);
-        fair.hearer(1, 1, 1, 1);
-        fair.wall(false, 3);
-        fair.turn(0, false);
-        fair.walk(1, 2, 2);
-        fair.ticks(99);
-        fair.set(0, 5);
-        fair.set(1, 3);
-        fair.set(1, 3);
-        fair.turn(0, false);
-        for (int i = 0; i < 10; i++) {
-            Check.isTrue("19: something is different", !all(fair).equals(before));
-            fair.undo();
-        }
-        Check.due("19: all is as before", all(fair), before);
-        fair.ticks(7);
-        String after = all(fair);
-        fair.undo();
-        fair.ticks(7);
-        Check.due("19: and goes on alike", all(fair), after);
-    }
-
-    private static void refusedIsNoAction() {
-        SirenFair fair = busy();
-        String before = all(fair);
-        Check.thrown("19: siren", () -> fair.siren(31, 0, 1, 0, 1), Check.ARGUMENT);
-        Check.thrown("19: hearer", () -> fair.hearer(41, 0, 0, 0), Check.ARGUMENT);
-        Check.thrown("19: wall", () -> fair.wall(true, 41), Check.ARGUMENT);
-        Check.thrown("19: turn", () -> fair.turn(2, false), Check.BOUNDS);
-        Check.thrown("19: walk", () -> fair.walk(0, 3, 0), Check.ARGUMENT);
-        Check.thrown("19: ticks", () -> fair.ticks(0), Check.ARGUMENT);
-        Check.thrown("19: set", () -> fair.set(0, 0), Check.ARGUMENT);
-        Check.due("19: nothing changed", all(fair), before);
-        Check.due("19: seven actions were remembered", () -> fair.undo(), 6);
-        Check.due("19: the ticks are taken back", () -> fair.about(3), 0);
     }
 }

@@ -1,17 +1,22 @@
+import java.util.ArrayList;
+import java.util.List;
+
 /**
  * Runs of calls drawn by a fixed row of numbers, on SirenFair and on the model, whose answers
  * and exceptions must be the same. Some arguments are at the edges or out of range.
+ * No object has more than 512 calls: to look around, the calls so far are made again on a new one.
  */
 public final class ModelTest {
-    private static final int RUNS = 60;
-    private static final int CALLS = 512;
+    private static final int RUNS = 240;
+    private static final int CALLS = 200;
+    private static final int CALLS_BETWEEN_LOOKS = 25;
     private static final int[] EXTREMES = {Integer.MIN_VALUE, Integer.MIN_VALUE + 1, -1001, -256, -100, -1, 0, 1, 2, 3,
         4, 60, 61, 100, 255, 256, 1000, 1001, 65536, Integer.MAX_VALUE - 1, Integer.MAX_VALUE};
 
     private long drawn;
     private SirenFair real;
     private Model model;
-    private String call;
+    private final List<Check.Call> made = new ArrayList<>();
     private int run;
     private int shy;
 
@@ -35,9 +40,21 @@ public final class ModelTest {
         return odd == 3 ? low : odd == 4 ? high : low + draw(high - low + 1);
     }
 
+    /** A call of the run: it is made again when the run is. */
     private void compare(String name, Check.Call ofReal, Check.Call ofModel) {
-        call = "run " + run + ": " + name;
-        Check.due(call, Check.answer(ofReal), Check.answer(ofModel));
+        made.add(ofReal);
+        same(name, ofReal, ofModel);
+    }
+
+    private void same(String name, Check.Call ofReal, Check.Call ofModel) {
+        Check.due("run " + run + ": " + name, Check.answer(ofReal), Check.answer(ofModel));
+    }
+
+    private void makeAgain() {
+        real = new SirenFair();
+        for (Check.Call call : made) {
+            Check.answer(call);
+        }
     }
 
     private void write(String text) {
@@ -92,28 +109,44 @@ public final class ModelTest {
     }
 
     private void lookAround() {
-        for (int what = 0; what < 10; what++) {
-            int w = what;
-            compare("about " + w, () -> real.about(w), () -> model.about(w));
+        makeAgain();
+        lookAtNumbers();
+        makeAgain();
+        lookAtHeard();
+        for (int k = 0; k <= 60; k += 20) {
+            makeAgain();
+            lookAtPulses(k, k + 20);
         }
-        for (int i = 0; i < 4; i++) {
-            int s = i;
-            for (int what = 0; what < 10; what++) {
-                int w = what;
-                compare("sirenOf " + s + " " + w, () -> real.sirenOf(s, w), () -> model.sirenOf(s, w));
-                compare("hearerOf " + s + " " + w, () -> real.hearerOf(s, w), () -> model.hearerOf(s, w));
-                for (int j = 0; j < 4; j++) {
-                    int h = j;
-                    compare("heard " + h + " " + s + " " + w, () -> real.heard(h, s, w), () -> model.heard(h, s, w));
-                }
+        makeAgain();
+    }
+
+    private void lookAtNumbers() {
+        for (int i = 0; i < 10; i++) {
+            int what = i;
+            same("about " + what, () -> real.about(what), () -> model.about(what));
+            for (int j = 0; j < 4; j++) {
+                int n = j;
+                same("sirenOf " + n + " " + what, () -> real.sirenOf(n, what), () -> model.sirenOf(n, what));
+                same("hearerOf " + n + " " + what, () -> real.hearerOf(n, what), () -> model.hearerOf(n, what));
+                same("wallOf " + n + " " + what, () -> real.wallOf(n, what), () -> model.wallOf(n, what));
             }
         }
-        for (int k = 0; k < 61; k++) {
-            int p = k;
-            for (int what = 0; what < 6; what++) {
-                int w = what;
-                compare("pulse " + p + " " + w, () -> real.pulse(p, w), () -> model.pulse(p, w));
-            }
+    }
+
+    private void lookAtHeard() {
+        for (int i = 0; i < 16 * 7; i++) {
+            int h = i / 28;
+            int s = i / 7 % 4;
+            int what = i % 7;
+            same("heard " + h + " " + s + " " + what, () -> real.heard(h, s, what), () -> model.heard(h, s, what));
+        }
+    }
+
+    private void lookAtPulses(int first, int behind) {
+        for (int i = 6 * first; i < 6 * behind; i++) {
+            int k = i / 6;
+            int what = i % 6;
+            same("pulse " + k + " " + what, () -> real.pulse(k, what), () -> model.pulse(k, what));
         }
     }
 
@@ -263,7 +296,9 @@ public final class ModelTest {
         real = new SirenFair();
         model = new Model();
         shy = number % 3 == 0 ? 8 : 60;
-        for (int i = 0; i < CALLS; i++) {
+        made.clear();
+        int looked = 0;
+        while (made.size() < CALLS) {
             int kind = draw(40);
             if (kind < 20) {
                 act();
@@ -274,7 +309,8 @@ public final class ModelTest {
             } else if (draw(number % 2 == 0 ? 2 : 12) == 0) {
                 text();
             }
-            if (i % 16 == 0) {
+            if (made.size() >= looked + CALLS_BETWEEN_LOOKS) {
+                looked = made.size();
                 lookAround();
             }
         }

@@ -1,0 +1,65 @@
+/** Fairs that more than one test asks. */
+final class Fairs {
+    /** A fair of 120 characters, the most that a text can have. */
+    static final String LONGEST = "Us40401301s10105020s70701608s12655502h000000h808044h400022h104042wu00wl80wu45c9"
+            + "o0-t01o1+t02o2-o3+t03c1t04o0+o2+c2t05c3c9";
+
+    private Fairs() {
+    }
+
+    static void write(SirenFair fair, String text) {
+        for (int i = 0; i < text.length(); i++) {
+            fair.append(text.charAt(i));
+        }
+    }
+
+    static SirenFair withText(String text) {
+        SirenFair fair = new SirenFair();
+        write(fair, text);
+        return fair;
+    }
+
+    /** A siren that stands at (x, y), the north western corner of the smallest ring. */
+    static SirenFair standing(int x, int y, int period) {
+        SirenFair fair = new SirenFair();
+        fair.siren(x + 1, y + 1, 1, 0, period);
+        return fair;
+    }
+
+    /** One of each, pulses, late ones, a text that is no fair, some remembered states, one slot. */
+    static SirenFair small() {
+        SirenFair fair = withText("Us40401301h");
+        fair.set(0, 1);
+        fair.siren(0, 0, 5, 3, 1);
+        fair.hearer(14, -5, -1, 0);
+        fair.wall(true, 12);
+        fair.ticks(25);
+        fair.save(1);
+        fair.ticks(9);
+        return fair;
+    }
+
+    /** As many as there can be of all: sirens, hearers, walls, pulses, remembered states, slots; but a short text. */
+    static SirenFair full() {
+        SirenFair fair = withText("Us10701620t09");
+        for (int i = 0; i < 4; i++) {
+            fair.siren(10 * i - 15, 5 - 3 * i, 1 + i, 3 - 2 * i, 1 + i);
+            fair.hearer(20 - 9 * i, 7 * i - 10, i - 2, 2 - i);
+        }
+        fair.wall(true, -3);
+        fair.save(0);
+        fair.wall(false, 21);
+        fair.ticks(30);
+        fair.wall(true, 35);
+        fair.save(1);
+        fair.set(1, 99);
+        fair.set(0, 2);
+        fair.turn(3, false);
+        fair.walk(2, 1, 1);
+        for (int i = 0; i < 8; i++) {
+            fair.ticks(3 + i);
+        }
+        fair.turn(3, true);
+        return fair;
+    }
+}
