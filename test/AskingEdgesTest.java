@@ -316,14 +316,9 @@ public final class AskingEdgesTest {
         Check.due("nor without hearers", () -> nobody.leastSpeed(99), 1);
     }
 
-    /** He heard those of 3 and 4, but not yet that of 1, which lasts. */
+    /** At 11 he heard all but that of 1, which comes at 13. */
     private static SirenFair withOneThatWillBeLate() {
-        SirenFair fair = new SirenFair();
-        fair.set(0, 1);
-        fair.siren(0, 0, 5, 3, 1);
-        fair.hearer(10, -5, 0, 0);
-        fair.ticks(4);
-        fair.turn(0, false);
+        SirenFair fair = Fairs.overtaking();
         fair.ticks(7);
         return fair;
     }

@@ -202,14 +202,9 @@ public final class TickEdgesTest {
         Check.due("nor for him", () -> fair.heard(0, 0, 2), 0);
     }
 
-    /** Given at 1, 2, 3, 4 from ways of 12, 9, 6, 7, heard at 13, 11, 9, 11: the second and the first are late. */
+    /** The second is late by the third, and the first by all, also behind the second, which was late. */
     private static void lateBehindALateOne() {
-        SirenFair fair = new SirenFair();
-        fair.set(0, 1);
-        fair.siren(0, 0, 5, 3, 1);
-        fair.hearer(10, -5, 0, 0);
-        fair.ticks(4);
-        fair.turn(0, false);
+        SirenFair fair = Fairs.overtaking();
         int[] late = {0, 0, 0, 0, 0, 0, 1, 1, 2, 2};
         for (int i = 0; i < late.length; i++) {
             int n = i;

@@ -11,7 +11,6 @@ public final class TickTest {
         goneByAge();
         goneBySixty();
         latePulses();
-        notLateInOneTick();
         pauses();
         beats();
         lateComer();
@@ -252,19 +251,8 @@ public final class TickTest {
         Check.thrown("10: 60 is none", () -> fair.pulse(60, 0), Check.BOUNDS);
     }
 
-    private static SirenFair fast() {
-        SirenFair fair = new SirenFair();
-        fair.set(0, 1);
-        fair.siren(0, 0, 5, 3, 1);
-        fair.hearer(10, -5, 0, 0);
-        fair.ticks(4);
-        fair.turn(0, false);
-        return fair;
-    }
-
-    /** Given at 1, 2, 3, 4 from ways of 12, 9, 6, 7, heard at 13, 11, 9, 11. */
     private static void latePulses() {
-        SirenFair fair = fast();
+        SirenFair fair = Fairs.overtaking();
         Check.due("17: at 8 none", () -> fair.ticks(4), 0);
         Check.due("17: at 9 the third", () -> fair.ticks(1), 1);
         Check.due("6: not late", () -> fair.about(8), 0);
@@ -282,19 +270,6 @@ public final class TickTest {
         Check.due("11: direct ones", () -> fair.heard(0, 0, 0), 4);
         Check.due("11: the latest", () -> fair.heard(0, 0, 3), 13);
         Check.due("7: faster than sound", () -> fair.sirenOf(0, 9), 1);
-    }
-
-    /** A sound so fast that several are heard in one tick, the oldest first. */
-    private static void notLateInOneTick() {
-        SirenFair fair = new SirenFair();
-        fair.set(0, 1);
-        fair.siren(0, 0, 1, 0, 1);
-        fair.hearer(-1, 9, 0, 0);
-        fair.ticks(5);
-        fair.set(0, 9);
-        Check.due("17: all but that of this tick", () -> fair.ticks(1), 4);
-        Check.due("6: none is late", () -> fair.about(8), 0);
-        Check.due("11: the pause", () -> fair.heard(0, 0, 4), 0);
     }
 
     private static void pauses() {

@@ -13,6 +13,7 @@ public final class WhatWouldBeTest {
         simulate();
         simulateTurns();
         simulateCrowded();
+        simulateDrawn();
         changeNothing();
         Check.end();
     }
@@ -257,9 +258,14 @@ public final class WhatWouldBeTest {
         int pulses = fair.about(4);
         script(fair, 1, 60000 + pulses, -1);
         script(fair, 1, 60000 + pulses - 1, 0);
+        script(fair, 1, 60000 + pulses + 1, -1);
+        script(fair, 1, 60099, -1);
         int beats = fair.hearerOf(0, 4);
-        script(fair, 1, 70000 + beats, -1);
-        script(fair, 1, 70001 + beats, 0);
+        Check.due("24: there was one beat", () -> beats, 1);
+        script(fair, 1, 70000, -1);
+        script(fair, 1, 70001, -1);
+        script(fair, 1, 70002, 0);
+        script(fair, 1, 70099, 0);
         script(fair, 1, 71000, -1);
         script(fair, 1, 71001, 0);
         script(fair, 1, 72000, 0);
@@ -369,6 +375,54 @@ public final class WhatWouldBeTest {
             SirenFair fair = new SirenFair();
             Check.due("25: seed " + s, () -> fair.simulate(s, 60), byCalls(new SirenFair(), s, 60));
         }
+    }
+
+    /** The multiplier's inverse: what it is multiplied by to give 1 with long overflow. */
+    private static long inverse() {
+        long inverse = 1;
+        for (int i = 0; i < 64; i++) {
+            inverse *= 2 - 6364136223846793005L * inverse;
+        }
+        return inverse;
+    }
+
+    /** A seed by which the first turn draws r, and the second one ticks, 10 to 12 of them. */
+    private static long seedOf(int r) {
+        for (long low = 0; low < 10000; low++) {
+            long x = ((long) r << 33) + low;
+            int next = (int) (x * 6364136223846793005L + 1442695040888963407L >>> 33);
+            if (next % 8 >= 5 && next / 8 % 12 >= 9) {
+                return (x - 1442695040888963407L) * inverse();
+            }
+        }
+        throw new IllegalStateException("no such seed for " + r);
+    }
+
+    /** The first turn by the least and the greatest r, and by those between which a divisor makes a difference. */
+    private static void simulateDrawn() {
+        int[] q = {0, 1, 60, 61, 63, 64, 80, 81, 127, 128, 60 * 64, 61 * 64 - 1, 61 * 64, 4095, 4096, 5 * 4096 - 1,
+            5 * 4096, 16383, 16384, 5 * 16384, 32767, 32768, 3 * 32768, 7 * 32768 - 1, 7 * 32768, 131071, 131072,
+            5 * 131072, 262143, 262144, 262145, 19 * 262144, 20 * 262144 - 1, 20 * 262144, 3 * 262144, 5 * 262144 - 1,
+            (1 << 28) - 1, (1 << 28) - 2, 161, 162, 8, 9, 11, 12, 3, 4, 7};
+        for (int i = 0; i < q.length * 8; i++) {
+            long seed = seedOf(8 * q[i / 8] + i % 8);
+            SirenFair fair = few();
+            Check.due("25: q " + q[i / 8] + ", kind " + i % 8, () -> fair.simulate(seed, 2), byCalls(few(), seed, 2));
+        }
+    }
+
+    /** Room for one more of each, beside a siren and hearers on all sides. */
+    private static SirenFair few() {
+        SirenFair fair = new SirenFair();
+        fair.set(0, 7);
+        fair.siren(0, 0, 3, -2, 3);
+        fair.siren(-20, 9, 2, 3, 2);
+        fair.hearer(-15, -15, 1, 1);
+        fair.hearer(15, -10, -1, 1);
+        fair.hearer(-3, 20, 0, -1);
+        fair.wall(false, 25);
+        fair.ticks(5);
+        return fair;
     }
 
     private static void changeNothing() {

@@ -26,6 +26,20 @@ final class Fairs {
         return fair;
     }
 
+    /**
+     * At the time 4, by a sound of 1, four pulses are on their way from a siren of speed 3 to one who stands still:
+     * given at 1, 2, 3, 4 at ways of 12, 9, 6, 7 from him, heard at 13, 11, 9, 11.
+     */
+    static SirenFair overtaking() {
+        SirenFair fair = new SirenFair();
+        fair.set(0, 1);
+        fair.siren(0, 0, 5, 3, 1);
+        fair.hearer(10, -5, 0, 0);
+        fair.ticks(4);
+        fair.turn(0, false);
+        return fair;
+    }
+
     /** One of each, pulses, late ones, a text that is no fair, some remembered states, one slot. */
     static SirenFair small() {
         SirenFair fair = withText("Us40401301h");
