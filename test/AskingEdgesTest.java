@@ -28,6 +28,9 @@ public final class AskingEdgesTest {
         simulateOneTurn();
         simulateSixtyTurns();
         simulateBeginsWithWhatThereIs();
+        heardInOnAFullField();
+        quietInOnAFullField();
+        leastSpeedOnAFullField();
         Check.end();
     }
 
@@ -404,5 +407,63 @@ public final class AskingEdgesTest {
         long fifthSiren = seed;
         Check.due("a turn that is left out", () -> fair.simulate(fifthSiren, 1), 60);
         Check.due("four sirens stay", () -> fair.about(0), 4);
+    }
+
+    private static SirenFair filled() {
+        SirenFair fair = new SirenFair();
+        Fairs.fill(fair, 1);
+        return fair;
+    }
+
+    /** What is told of each hearer and each siren is what then is. */
+    private static void heardInOnAFullField() {
+        for (int i = 0; i < 16; i++) {
+            int h = i / 4;
+            int s = i % 4;
+            SirenFair fair = filled();
+            int told = fair.heardIn(h, s);
+            int before = fair.heard(h, s, 0);
+            int n = 0;
+            while (n < 200 && fair.heard(h, s, 0) == before) {
+                fair.ticks(1);
+                n++;
+            }
+            int due = fair.heard(h, s, 0) == before ? -1 : n;
+            Check.due("hearer " + h + ", siren " + s, () -> told, due);
+        }
+    }
+
+    private static void quietInOnAFullField() {
+        for (int lasting = 1; lasting <= 99; lasting += 7) {
+            SirenFair fair = filled();
+            fair.set(1, lasting);
+            int told = fair.quietIn();
+            for (int s = 0; s < 4; s++) {
+                fair.turn(s, false);
+            }
+            int n = 0;
+            while (n < 99 && fair.about(4) > 0) {
+                fair.ticks(1);
+                n++;
+            }
+            int due = n;
+            Check.due("pulses that last " + lasting, () -> told, due);
+        }
+    }
+
+    private static void leastSpeedOnAFullField() {
+        for (int ticks = 1; ticks <= 99; ticks += 7) {
+            int n = ticks;
+            int due = -1;
+            for (int v = 9; v >= 1; v--) {
+                SirenFair fair = filled();
+                int before = fair.about(8);
+                fair.set(0, v);
+                fair.ticks(n);
+                due = fair.about(8) == before ? v : due;
+            }
+            int least = due;
+            Check.due("in " + n + " ticks", () -> filled().leastSpeed(n), least);
+        }
     }
 }

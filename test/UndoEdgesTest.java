@@ -21,6 +21,8 @@ public final class UndoEdgesTest {
         restoreOfTheSameTwice();
         restoreForgetsAll();
         restoreOfAnEmptyField();
+        restoreOfAFullField();
+        undoOnAFullField();
         Check.end();
     }
 
@@ -356,5 +358,60 @@ public final class UndoEdgesTest {
         Check.thrown("no hearer", () -> fair.hearerOf(0, 0), Check.BOUNDS);
         Check.thrown("no wall", () -> fair.wallOf(0, 0), Check.BOUNDS);
         Check.thrown("no pulse", () -> fair.pulse(0, 0), Check.BOUNDS);
+    }
+
+    /** A field that was full of other things between is as one that was not. */
+    private static void restoreOfAFullField() {
+        Whole.Maker at = () -> {
+            SirenFair fair = new SirenFair();
+            fair.save(0);
+            Fairs.fill(fair, 1);
+            fair.save(1);
+            fair.restore(1);
+            return fair;
+        };
+        Whole.Maker between = () -> {
+            SirenFair fair = new SirenFair();
+            fair.save(0);
+            Fairs.fill(fair, 1);
+            fair.save(1);
+            fair.restore(0);
+            Fairs.fill(fair, -1);
+            fair.restore(1);
+            return fair;
+        };
+        SirenFair full = at.make();
+        Check.due("60 pulses", () -> full.about(4), 60);
+        Check.due("the full field comes back", Whole.of(between), Whole.of(at));
+    }
+
+    private static void undoOnAFullField() {
+        String without = Whole.of(UndoEdgesTest::fullWithoutTheOldest);
+        for (int i = 3; i < 8; i++) {
+            int kind = i;
+            Check.due("action " + kind + " is taken back", Whole.of(() -> {
+                SirenFair fair = Fairs.full();
+                act(fair, kind);
+                fair.turn(3, false);
+                fair.walk(3, 2, -2);
+                fair.ticks(7);
+                for (int j = 0; j < 4; j++) {
+                    fair.undo();
+                }
+                return fair;
+            }), without);
+        }
+    }
+
+    /** As full, but of the 14 remembered states four are forgotten. */
+    private static SirenFair fullWithoutTheOldest() {
+        SirenFair fair = Fairs.full();
+        for (int i = 0; i < 4; i++) {
+            fair.set(0, 2);
+        }
+        for (int i = 0; i < 4; i++) {
+            fair.undo();
+        }
+        return fair;
     }
 }

@@ -14,6 +14,7 @@ public final class WhatWouldBeTest {
         simulateTurns();
         simulateCrowded();
         simulateDrawn();
+        simulateFull();
         changeNothing();
         Check.end();
     }
@@ -423,6 +424,16 @@ public final class WhatWouldBeTest {
         fair.wall(false, 25);
         fair.ticks(5);
         return fair;
+    }
+
+    /** As many as there can be of all, on what is tried too; before it something else was tried. */
+    private static void simulateFull() {
+        for (long seed = 1; seed <= 40; seed++) {
+            long s = seed;
+            SirenFair fair = Fairs.full();
+            Check.due("25: full, seed " + s, () -> fair.simulate(s, 60), byCalls(Fairs.full(), s, 60));
+            Check.due("25: again, seed " + -s, () -> fair.simulate(-s, 7), byCalls(Fairs.full(), -s, 7));
+        }
     }
 
     private static void changeNothing() {

@@ -56,10 +56,7 @@ final class Fairs {
     /** As many as there can be of all: sirens, hearers, walls, pulses, remembered states, slots; but a short text. */
     static SirenFair full() {
         SirenFair fair = withText("Us10701620t09");
-        for (int i = 0; i < 4; i++) {
-            fair.siren(10 * i - 15, 5 - 3 * i, 1 + i, 3 - 2 * i, 1 + i);
-            fair.hearer(20 - 9 * i, 7 * i - 10, i - 2, 2 - i);
-        }
+        addFour(fair, 1);
         fair.wall(true, -3);
         fair.save(0);
         fair.wall(false, 21);
@@ -75,5 +72,24 @@ final class Fairs {
         }
         fair.turn(3, true);
         return fair;
+    }
+
+    /** Four sirens and four hearers, which with another kind, 1 or -1, are at other places and go otherwise. */
+    static void addFour(SirenFair fair, int kind) {
+        for (int i = 0; i < 4; i++) {
+            fair.siren(kind * (10 * i - 15), 5 - 3 * i, 1 + i, kind * (3 - 2 * i), 2 - kind + i);
+            fair.hearer(20 - 9 * i, kind * (7 * i - 10), i - 2, kind * (2 - i));
+        }
+    }
+
+    /** Four sirens, four hearers, three walls and 60 pulses, by kinds as above. */
+    static void fill(SirenFair fair, int kind) {
+        addFour(fair, kind);
+        for (int i = -1; i <= 1; i++) {
+            fair.wall(i == kind, 13 * i + kind);
+        }
+        fair.set(0, 2);
+        fair.turn(3, kind > 0);
+        fair.ticks(50);
     }
 }
